@@ -447,16 +447,10 @@ public final class TitleFinder {
         }
 
         private static char[] initialsOf(char[] letters) {
-            int words = 0;
-            for (int i = 0; i < letters.length; i++) {
-                if (startsWord(letters, i)) {
-                    words++;
-                }
-            }
-            char[] initials = new char[words];
+            char[] initials = new char[wordCount(letters)];
             int next = 0;
-            for (int i = 0; i < letters.length && next < words; i++) {
-                if (startsWord(letters, i)) {
+            for (int i = 0; i < letters.length && next < initials.length; i++) {
+                if (i == 0 || letters[i - 1] == ' ') {
                     initials[next] = letters[i];
                     next++;
                 }
@@ -464,9 +458,14 @@ public final class TitleFinder {
             return initials;
         }
 
-        /** The place is one of the letters' places. */
-        private static boolean startsWord(char[] letters, int place) {
-            return place == 0 || letters[place - 1] == ' ';
+        private static int wordCount(char[] letters) {
+            int words = 1;
+            for (int i = 0; i < letters.length; i++) {
+                if (letters[i] == ' ') {
+                    words++;
+                }
+            }
+            return words;
         }
 
         Title usedOnceMore() {
@@ -479,16 +478,17 @@ public final class TitleFinder {
         }
 
         boolean startsPiece(int mode, int place) {
-            if (place < 0 || place >= run(mode).length) {
+            if (mode == MODE_INITIALS) {
+                return place >= 0 && place < initials.length;
+            }
+            if (place < 0 || place >= letters.length) {
                 return false;
             }
             switch (mode) {
                 case MODE_START:
                     return place == 0;
                 case MODE_WORD:
-                    return startsWord(letters, place);
-                case MODE_INITIALS:
-                    return true;
+                    return place == 0 || letters[place - 1] == ' ';
                 default:
                     return letters[place] != ' ';
             }
@@ -521,11 +521,12 @@ public final class TitleFinder {
         }
 
         boolean comesByNameBefore(Title other) {
-            int same = sameLength(letters, 0, other.letters, 0, MOST_LETTERS);
-            if (same >= letters.length || same >= other.letters.length) {
-                return letters.length < other.letters.length;
+            for (int i = 0; i < letters.length && i < other.letters.length; i++) {
+                if (letters[i] != other.letters[i]) {
+                    return letters[i] < other.letters[i];
+                }
             }
-            return letters[same] < other.letters[same];
+            return letters.length < other.letters.length;
         }
 
         /** How many characters behind two starts, both 0 or more, are the same, counted up to most. */
@@ -739,7 +740,10 @@ public final class TitleFinder {
             boolean needsLetter = true;
             for (int count = 1; count <= MOST_LETTERS && hasSign(); count++) {
                 boolean blank = signs[at] == ' ';
-                if (blank ? needsLetter || count == MOST_LETTERS : !isLetter(signs[at])) {
+                if (blank && (needsLetter || count == MOST_LETTERS)) {
+                    break;
+                }
+                if (!blank && !isLetter(signs[at])) {
                     break;
                 }
                 needsLetter = blank;
@@ -945,8 +949,16 @@ public final class TitleFinder {
                 findPlaces(places[i], most, run, start, state.titles.get(i), state.mode);
             }
             for (int length = 1; length <= most; length++) {
-                if (run[start + length - 1] != ' ') {
-                    judge(start, length, state, title);
+                if (run[start + length - 1] == ' ') {
+                    continue;
+                }
+                if ((!hasKey() || length < keyLength) && isKnownBy(length, state, title)) {
+                    keyStart = start;
+                    keyLength = length;
+                }
+                if ((!hasShortcut() || length < shortcutLength) && isFirstFor(length, state, title)) {
+                    shortcutStart = start;
+                    shortcutLength = length;
                 }
             }
         }
@@ -974,17 +986,6 @@ public final class TitleFinder {
             }
             for (int length = found + 1; length <= most && length < row.length; length++) {
                 row[length] = NONE;
-            }
-        }
-
-        private void judge(int start, int length, State state, int title) {
-            if ((!hasKey() || length < keyLength) && isKnownBy(length, state, title)) {
-                keyStart = start;
-                keyLength = length;
-            }
-            if ((!hasShortcut() || length < shortcutLength) && isFirstFor(length, state, title)) {
-                shortcutStart = start;
-                shortcutLength = length;
             }
         }
 
