@@ -8,6 +8,7 @@ public final class KeysTest {
     public static void main(String[] args) {
         testKeysInEachMode();
         testKeyOfOneTitle();
+        testLongestKey();
         testKeyWithBlankInside();
         testLowestStart();
         testShortcutsByPlace();
@@ -61,6 +62,18 @@ public final class KeysTest {
             dueKeys("alone in mode " + mode, finder, 0, 1);
             dueShortcuts("alone in mode " + mode, finder, 0, 1);
         }
+    }
+
+    private static void testLongestKey() {
+        TitleFinder finder = Checks.withTitles("abcdefghijklmnopqrstuvwx", "abcdefghijklmnopqrstuvwy");
+        finder.setMode(1);
+        dueKeys("24 characters", finder, 0, 24, 0, 24);
+        dueShortcuts("24 characters", finder, 0, 1, 0, 24);
+        finder.setMode(3);
+        dueKeys("24 characters, one initial", finder, NONE, NONE, NONE, NONE);
+        TitleFinder initials = Checks.withTitles("a a a a a a a a a a a b", "a a a a a a a a a a a a");
+        initials.setMode(3);
+        dueKeys("twelve initials", initials, 11, 1, 0, 12);
     }
 
     private static void testKeyWithBlankInside() {

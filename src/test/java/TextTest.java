@@ -16,6 +16,7 @@ public final class TextTest {
         testWrongTitles();
         testLengthOfTitles();
         testFullText();
+        testOldCharactersAreGone();
         Checks.end();
     }
 
@@ -100,6 +101,11 @@ public final class TextTest {
         dueError("clear ;clear", 5);
         dueError("clear,clear", 5);
         dueError("cleAr", 3);
+        dueError("clearclear", 5);
+        dueError("drop 1drop 1", 6);
+        dueError("pick 12add a", 7);
+        dueError("mode wordclear", 9);
+        dueError("order nameask a", 10);
     }
 
     private static void testWrongNames() {
@@ -177,5 +183,34 @@ public final class TextTest {
         dueError(plan.substring(0, 79) + " ", 80);
         dueError(plan.substring(0, 79) + "?", 79);
         dueError("ask a;ask a;ask a;ask a;ask a;ask a;ask a;ask a;ask a;ask a;ask a;ask ab;mode in", 80);
+    }
+
+    /** What stood in the text before it was emptied is not read any more. */
+    private static void testOldCharactersAreGone() {
+        String[] plans = {"clear", "add a", "add ab", "drop 0", "drop 12", "mode part", "order name", "ask a b",
+            "clear;clear", "pick 1;pick 2"};
+        for (String plan : plans) {
+            for (int length = 0; length < plan.length(); length++) {
+                String text = plan.substring(0, length);
+                TitleFinder fresh = new TitleFinder();
+                Checks.type(fresh, text);
+                TitleFinder used = new TitleFinder();
+                Checks.type(used, plan);
+                Checks.write(used, text);
+                Checks.due("syntaxError() of <" + text + ">, again", used.syntaxError(), fresh.syntaxError());
+            }
+        }
+        TitleFinder finder = new TitleFinder();
+        Checks.type(finder, "clear");
+        Checks.write(finder, "clea");
+        Checks.due("syntaxError() of clea", finder.syntaxError(), 4);
+        Checks.due("carryOut() of clea", finder.carryOut(), TitleFinder.BAD_TEXT);
+        Checks.write(finder, "drop 12");
+        Checks.write(finder, "drop 1");
+        Checks.due("carryOut() of drop 1", finder.carryOut(), 0);
+        Checks.write(finder, "sea fire");
+        Checks.write(finder, "sea");
+        Checks.due("add()", finder.add(), 0);
+        Checks.dueText("title", Checks.titleOf(finder, 0), "sea");
     }
 }
