@@ -1,21 +1,36 @@
+import java.util.function.Consumer;
+import java.util.function.ToLongFunction;
+
 /** What the tests share: they print each answer that is not due and end with exit code 1 if there was one. */
 final class Checks {
+    /** More than any title, query or row of saved states has, so that the tests of a broken program end, too. */
+    private static final int MOST = 30;
+
     private static int checked = 0;
     private static int wrong = 0;
+    private static int sentences = 0;
+    private static String sentence = "";
 
     private Checks() {
+    }
+
+    /** Says which words of the document the answers behind it are due to. */
+    static void sentence(String words) {
+        sentences++;
+        sentence = "\"" + words + "\": ";
     }
 
     static void due(String call, long got, long want) {
         checked++;
         if (got != want) {
             wrong++;
-            System.out.println(call + " answered " + got + ", due is " + want);
+            System.out.println(sentence + call + " answered " + got + ", due is " + want);
         }
     }
 
     static void end() {
-        System.out.println(checked + " answers, " + wrong + " not as due");
+        String told = sentences == 0 ? "" : " for " + sentences + " sentences";
+        System.out.println(checked + " answers" + told + ", " + wrong + " not as due");
         if (wrong != 0 || checked == 0) {
             System.exit(1);
         }
@@ -63,14 +78,14 @@ final class Checks {
     }
 
     static void emptyQuery(TitleFinder finder) {
-        while (finder.queryLength() > 0) {
+        for (int i = 0; i < MOST && finder.queryLength() > 0; i++) {
             finder.erase();
         }
     }
 
     static String titleOf(TitleFinder finder, int title) {
         StringBuilder letters = new StringBuilder();
-        for (int place = 0; finder.character(title, place) >= 0; place++) {
+        for (int place = 0; place < MOST && finder.character(title, place) >= 0; place++) {
             letters.append((char) finder.character(title, place));
         }
         return letters.toString();
@@ -78,7 +93,7 @@ final class Checks {
 
     static String queryOf(TitleFinder finder) {
         StringBuilder signs = new StringBuilder();
-        for (int place = 0; finder.queryCharacter(place) >= 0; place++) {
+        for (int place = 0; place < MOST && finder.queryCharacter(place) >= 0; place++) {
             signs.append((char) finder.queryCharacter(place));
         }
         return signs.toString();
@@ -106,5 +121,56 @@ final class Checks {
     static void dueShortcut(String what, TitleFinder finder, int title, int start, int length) {
         due(what + ": start of the shortcut of " + title, finder.of(title, 5), start);
         due(what + ": length of the shortcut of " + title, finder.of(title, 6), length);
+    }
+
+    /** The answer of a refused call, and that an object without this call answers the same from there on. */
+    static void dueRefused(String call, Consumer<TitleFinder> before, ToLongFunction<TitleFinder> refused, long want) {
+        TitleFinder finder = new TitleFinder();
+        before.accept(finder);
+        due(call, refused.applyAsLong(finder), want);
+        TitleFinder twin = new TitleFinder();
+        before.accept(twin);
+        dueText("what is seen after " + call, everythingOf(finder), everythingOf(twin));
+    }
+
+    /** All that can be seen of an object: its state, its text and its saved states; it is used up by that. */
+    static String everythingOf(TitleFinder finder) {
+        StringBuilder seen = new StringBuilder();
+        seen.append(finder.digest()).append(' ').append(finder.syntaxError()).append(' ').append(finder.ifAdded());
+        int left = finder.undo();
+        for (int i = 0; i < MOST && left >= 0; i++) {
+            seen.append(" undo ").append(left).append(' ').append(finder.digest());
+            left = finder.undo();
+        }
+        seen.append(" plan ").append(finder.carryOut()).append(' ').append(finder.digest());
+        seen.append(" title ").append(finder.add()).append(' ').append(finder.digest());
+        return seen.append(" text ").append(finder.clearText()).toString();
+    }
+
+    /** Titles t0, t1 and so on. */
+    static TitleFinder withCount(int count) {
+        TitleFinder finder = new TitleFinder();
+        for (int i = 0; i < count; i++) {
+            addTitle(finder, "t" + i);
+        }
+        return finder;
+    }
+
+    /** The first characters of the alphabet. */
+    static String letters(int count) {
+        return "abcdefghijklmnopqrstuvwxyz".substring(0, count);
+    }
+
+    static void duePlaces(String what, TitleFinder finder, int... want) {
+        for (int rank = 0; rank < want.length; rank++) {
+            due(what + ": matchPlace(" + rank + ")", finder.matchPlace(rank), want[rank]);
+        }
+        due(what + ": matchPlace(" + want.length + ")", finder.matchPlace(want.length), TitleFinder.NO_SUCH);
+    }
+
+    /** Replaces the query. */
+    static void askFor(TitleFinder finder, String query) {
+        emptyQuery(finder);
+        ask(finder, query);
     }
 }
