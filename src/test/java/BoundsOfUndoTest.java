@@ -246,6 +246,11 @@ public final class BoundsOfUndoTest {
         Checks.due("undo()", finder.undo(), 0);
         Checks.dueText("query", Checks.queryOf(finder), "");
         Checks.due("undo()", finder.undo(), NOT_POSSIBLE);
+        TitleFinder full = new TitleFinder();
+        Checks.ask(full, "abcdefg");
+        Checks.due("undo() of six", full.undo(), 5);
+        Checks.due("undo() of five", full.undo(), 4);
+        Checks.dueText("query", Checks.queryOf(full), "abcde");
     }
 
     // ---- error codes
